@@ -31,6 +31,7 @@ public final class LoomTest {
         lay();
         layClears();
         tablets();
+        threadings();
         holesPacksDrafts();
         topsAndRows();
         System.out.println(wrong == 0 ? "looms: as due" : "looms: " + wrong + " WRONG");
@@ -141,6 +142,9 @@ public final class LoomTest {
         fault(T + T + T + T + T + T + "p012345;p6;", 68);
         fault(T + T + T + T + T + T + "p0123450;", 60);
         fault(T + "p01;" + T, 10);
+        fault(T + T + T + "p11;", 30);
+        fault(T + T + T + "p0121;", 30);
+        fault(T + T + T + "p202;", 30);
         fault(T + "d0f;p0;", 10);
         fault(T + "p0;d1f;p0;", 13);
         fault(T + "p0;;", 13);
@@ -248,6 +252,24 @@ public final class LoomTest {
         int[] noWhat = {-1, 7, 8, Integer.MIN_VALUE, Integer.MAX_VALUE};
         for (int what : noWhat) {
             due("tablet(0, " + what + ")", x.tablet(0, what), -1);
+        }
+    }
+
+    private static void threadings() {
+        for (int bits = 0; bits < 64; bits += 9) {
+            StringBuilder text = new StringBuilder();
+            for (int t = 0; t < 6; t++) {
+                text.append("t0,").append(bits >> t & 1).append(",0123;");
+            }
+            TurnedTablets x = loom(text + "p012345;");
+            due("top(1)", x.top(1), bits);
+            for (int t = 0; t < 6; t++) {
+                due("tablet(" + t + ", 1)", x.tablet(t, 1), bits >> t & 1);
+            }
+            x.weave(0, 1);
+            due("top(1) behind BACK", x.top(1), 63 - bits);
+            x.weave(0, 0);
+            due("top(1) behind FORWARD", x.top(1), bits);
         }
     }
 

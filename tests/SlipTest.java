@@ -33,6 +33,7 @@ public final class SlipTest {
         bandsWrong();
         keepAndBack();
         backBringsAll();
+        backBringsRows();
         counts();
         System.out.println(wrong == 0 ? "slips, bands: as due" : "slips, bands: " + wrong + " WRONG");
         if (wrong > 0) {
@@ -247,6 +248,29 @@ public final class SlipTest {
         due("top(0)", x.top(0), 17);
     }
 
+    private static void backBringsRows() {
+        TurnedTablets x = loom("t0,0,0123;t1,1,4567;p01;p0;");
+        x.weave(0, 0);
+        x.weave(1, 0);
+        x.keep();
+        x.cut();
+        x.weave(0, 1);
+        x.keep();
+        x.cut();
+        x.weave(0, 1);
+        x.weave(0, 1);
+        due("back()", x.back(), 1);
+        due("count(4)", x.count(4), 1);
+        due("row(0, 0)", x.row(0, 0), 14);
+        due("row(0, 1)", x.row(0, 1), 1);
+        due("back()", x.back(), 0);
+        due("row(0, 0)", x.row(0, 0), 16);
+        due("row(1, 0)", x.row(1, 0), 26);
+        due("row(1, 1)", x.row(1, 1), 2);
+        due("unweave()", x.unweave(), 1);
+        due("tablet(0, 4)", x.tablet(0, 4), 41);
+    }
+
     private static void counts() {
         TurnedTablets x = loom("t0,0,0123;t1,0,0123;t0,0,0123;p0;p12;p0;p0;l7;d0f1b2f3b0b;");
         int[] wants = {3, 4, 5, 7, 0, 0, 0, 0, 0, 58};
@@ -275,5 +299,9 @@ public final class SlipTest {
         due("count(6)", x.count(6), 1);
         due("count(8)", x.count(8), 1);
         due("count(9)", x.count(9), 0);
+        for (int k = 0; k < 4; k++) {
+            x.weave(1, 0);
+        }
+        due("count(5): tablet 0 alone", x.count(5), 1);
     }
 }

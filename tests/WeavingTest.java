@@ -37,6 +37,7 @@ public final class WeavingTest {
         comb();
         cut();
         undo();
+        undoBringsRows();
         undoEach();
         System.out.println(wrong == 0 ? "weaving: as due" : "weaving: " + wrong + " WRONG");
         if (wrong > 0) {
@@ -358,6 +359,28 @@ public final class WeavingTest {
         due("undo()", x.undo(), 0);
         due("undo()", x.undo(), -2);
         due("count(4)", x.count(4), 3);
+    }
+
+    /** A row that has been woven anew behind a cut is another one: undone, the old one is there again. */
+    private static void undoBringsRows() {
+        TurnedTablets x = loom("t0,0,0123;t1,1,4567;p01;p0;");
+        x.weave(0, 0);
+        x.weave(1, 0);
+        x.cut();
+        x.weave(0, 1);
+        due("row(0, 0)", x.row(0, 0), 14);
+        due("row(0, 1)", x.row(0, 1), 1);
+        due("undo()", x.undo(), 3);
+        due("undo()", x.undo(), 2);
+        due("row(0, 0)", x.row(0, 0), 16);
+        due("row(0, 1)", x.row(0, 1), 2);
+        due("row(1, 0)", x.row(1, 0), 26);
+        due("row(2, 0)", x.row(2, 0), -4);
+        due("unweave()", x.unweave(), 1);
+        stands(x, 0, 1, 1, 0, 0);
+        due("unweave()", x.unweave(), 0);
+        stands(x, 0, 0, 0, 0, 0);
+        stands(x, 1, 0, 0, 0, 1);
     }
 
     /** What each of the calls that can be undone does is undone; what the others do is not. */

@@ -23,7 +23,7 @@ public final class TurnedTablets {
     private static final int HOLES = 4;
     private static final int TENTHS = 10;
     private static final int MOST_Z = 9999;
-    private static final int MOST_STEPS = 60;
+    private static final int MOST_DRAWS = 60;
 
     private static final int FORWARD = 0;
     private static final int BACK = 1;
@@ -401,7 +401,7 @@ public final class TurnedTablets {
     }
 
     public int bands(int z, int n, int what) {
-        if (z < 0 || z > MOST_Z || n < 1 || n > MOST_STEPS || what < 0 || what > 1) {
+        if (z < 0 || z > MOST_Z || n < 1 || n > MOST_DRAWS || what < 0 || what > 1) {
             return BAD;
         }
         trial.copyFrom(cloth);
@@ -956,7 +956,7 @@ public final class TurnedTablets {
     /** Which holes can come on top by picks, whatever twist; its rows are used anew by each question. */
     private static final class Search {
         private static final int START = -1;
-        private static final int UNSEEN = 0;
+        private static final int UNMET = 0;
         private static final int MOST_STEPS_OF_LOOM = 2 * MOST_PACKS;
 
         private final int[] list = new int[MOST_TOPS];
@@ -986,20 +986,24 @@ public final class TurnedTablets {
                     return tops;
                 }
                 for (int s = 0; s < stepCount; s++) {
-                    enlist(addTops(tops, steps[s]), 1 + (tops << 4 | s));
+                    enlist(onBy(tops, s), 1 + (tops << 4 | s));
                 }
             }
             return -1;
         }
 
+        private int onBy(int tops, int s) {
+            return s >= 0 && s < MOST_STEPS_OF_LOOM ? addTops(tops, steps[s]) : tops;
+        }
+
         private void startList(int tops, int mark) {
-            Arrays.fill(marks, UNSEEN);
+            Arrays.fill(marks, UNMET);
             listed = 0;
             enlist(tops, mark);
         }
 
         private void enlist(int tops, int mark) {
-            if (tops >= 0 && tops < MOST_TOPS && marks[tops] == UNSEEN && listed < MOST_TOPS) {
+            if (tops >= 0 && tops < MOST_TOPS && marks[tops] == UNMET && listed < MOST_TOPS) {
                 marks[tops] = mark;
                 list[listed] = tops;
                 listed++;
@@ -1041,7 +1045,7 @@ public final class TurnedTablets {
             startList(from, START);
             for (int s = 0; s < stepCount; s++) {
                 if ((set >> s / 2 & 1) == 1) {
-                    spread(from, steps[s]);
+                    spread(from, onBy(0, s));
                 }
             }
         }
@@ -1050,7 +1054,7 @@ public final class TurnedTablets {
         private void spread(int from, int step) {
             int before = listed;
             int sum = step;
-            for (int times = 1; times < HOLES && markOf(addTops(from, sum)) == UNSEEN; times++) {
+            for (int times = 1; times < HOLES && markOf(addTops(from, sum)) == UNMET; times++) {
                 for (int i = 0; i < before && i < MOST_TOPS; i++) {
                     enlist(addTops(list[i], sum), START);
                 }
@@ -1070,7 +1074,7 @@ public final class TurnedTablets {
 
         /** How many rows of colours unlike each other are among the tops listed. */
         private int countRows(Loom loom) {
-            Arrays.fill(marks, UNSEEN);
+            Arrays.fill(marks, UNMET);
             int tops = listed;
             listed = 0;
             for (int i = 0; i < tops && i < MOST_TOPS; i++) {
@@ -1102,8 +1106,8 @@ public final class TurnedTablets {
             System.arraycopy(marks, 0, list, 0, MOST_TOPS);
             Arrays.fill(marks, 0);
             for (int tops = 0; tops < MOST_TOPS; tops++) {
-                for (int s = 0; s < stepCount && s < MOST_STEPS_OF_LOOM && list[tops] > 0; s++) {
-                    int next = addTops(tops, steps[s]);
+                for (int s = 0; s < stepCount && list[tops] > 0; s++) {
+                    int next = onBy(tops, s);
                     if (next >= 0 && next < MOST_TOPS) {
                         marks[next] += list[tops];
                     }
@@ -1123,8 +1127,7 @@ public final class TurnedTablets {
         private int countStarts(Loom loom, int[] seen, int seenCount) {
             int stepCount = takeSteps(loom);
             int allTops = Math.min(1 << 2 * loom.tablets, MOST_TOPS);
-            Arrays.fill(marks, 0);
-            Arrays.fill(marks, 0, allTops, 1);
+            Arrays.fill(marks, 1);
             for (int i = Math.min(seenCount, seen.length) - 1; i >= 0; i--) {
                 keepThose(loom, seen[i]);
                 goBack(stepCount, allTops);
@@ -1140,8 +1143,8 @@ public final class TurnedTablets {
             System.arraycopy(marks, 0, list, 0, MOST_TOPS);
             Arrays.fill(marks, 0);
             for (int tops = 0; tops < allTops && tops < MOST_TOPS; tops++) {
-                for (int s = 0; s < stepCount && s < MOST_STEPS_OF_LOOM && marks[tops] == 0; s++) {
-                    int next = addTops(tops, steps[s]);
+                for (int s = 0; s < stepCount && marks[tops] == 0; s++) {
+                    int next = onBy(tops, s);
                     marks[tops] = next >= 0 && next < MOST_TOPS ? list[next] : 0;
                 }
             }

@@ -372,10 +372,10 @@ public final class TurnedTablets {
         int tops = cloth.tops();
         int found = 0;
         for (int t = 0; t < loom.tablets; t++) {
-            if (loom.coloursOf(addTops(tops, topOf(t, 1))) == colours) {
+            if (loom.shows(addTops(tops, topOf(t, 1)), colours)) {
                 found |= 1 << t;
             }
-            if (loom.coloursOf(addTops(tops, topOf(t, HOLES - 1))) == colours) {
+            if (loom.shows(addTops(tops, topOf(t, HOLES - 1)), colours)) {
                 found |= 1 << (t + MOST_TABLETS);
             }
         }
@@ -531,6 +531,7 @@ public final class TurnedTablets {
         private final int[] kinds = new int[MOST_TABLETS];
         private final int[] threadings = new int[MOST_TABLETS];
         private final int[] threads = new int[MOST_TABLETS * HOLES];
+        private final int[] firstAlike = new int[MOST_TABLETS * HOLES];
         private final int[] packSets = new int[MOST_PACKS];
         private final int[] draftPicks = new int[MOST_PICKS];
 
@@ -549,6 +550,7 @@ public final class TurnedTablets {
             System.arraycopy(other.kinds, 0, kinds, 0, MOST_TABLETS);
             System.arraycopy(other.threadings, 0, threadings, 0, MOST_TABLETS);
             System.arraycopy(other.threads, 0, threads, 0, MOST_TABLETS * HOLES);
+            System.arraycopy(other.firstAlike, 0, firstAlike, 0, MOST_TABLETS * HOLES);
             System.arraycopy(other.packSets, 0, packSets, 0, MOST_PACKS);
             System.arraycopy(other.draftPicks, 0, draftPicks, 0, MOST_PICKS);
         }
@@ -596,8 +598,20 @@ public final class TurnedTablets {
                 threads[tablets * HOLES + h] = rest % 10;
                 rest /= 10;
             }
+            for (int h = 0; h < HOLES; h++) {
+                firstAlike[tablets * HOLES + h] = findFirstAlike(tablets, h);
+            }
             tablets++;
             return true;
+        }
+
+        private int findFirstAlike(int t, int hole) {
+            for (int h = 0; h < hole; h++) {
+                if (colour(t, h) == colour(t, hole)) {
+                    return h;
+                }
+            }
+            return hole;
         }
 
         private boolean addPack(int set) {
@@ -652,6 +666,18 @@ public final class TurnedTablets {
             return number;
         }
 
+        /** As coloursOf, but done with at the first tablet that differs: searches ask this most. */
+        private boolean shows(int tops, int colours) {
+            int rest = colours;
+            for (int t = tablets - 1; t >= 0; t--) {
+                if (colour(t, tops >> (2 * t) & HOLES - 1) != rest % 10) {
+                    return false;
+                }
+                rest /= 10;
+            }
+            return rest == 0;
+        }
+
         private boolean areColours(int number) {
             int bound = 1;
             for (int t = 0; t < tablets; t++) {
@@ -660,18 +686,13 @@ public final class TurnedTablets {
             return number >= 0 && number < bound;
         }
 
-        /** For each tablet the lowest hole of the same colour: alike for like rows alone. */
-        private int lowestAlike(int tops) {
-            int lowest = 0;
-            for (int t = 0; t < tablets; t++) {
-                int colour = colour(t, tops >> (2 * t) & HOLES - 1);
-                int h = 0;
-                while (h < HOLES - 1 && colour(t, h) != colour) {
-                    h++;
-                }
-                lowest |= topOf(t, h);
+        /** For each tablet the first hole of the same colour: alike for like rows alone. */
+        private int firstAlikeOf(int tops) {
+            int first = 0;
+            for (int t = 0; t < tablets && t < MOST_TABLETS; t++) {
+                first |= topOf(t, firstAlike[t * HOLES + (tops >> (2 * t) & HOLES - 1)]);
             }
-            return lowest;
+            return first;
         }
     }
 
@@ -982,7 +1003,7 @@ public final class TurnedTablets {
             startList(from, START);
             for (int i = 0; i < listed && i < MOST_TOPS; i++) {
                 int tops = list[i];
-                if (loom.coloursOf(tops) == colours) {
+                if (loom.shows(tops, colours)) {
                     return tops;
                 }
                 for (int s = 0; s < stepCount; s++) {
@@ -1065,7 +1086,7 @@ public final class TurnedTablets {
         private boolean reaches(Loom loom, int from, int set, int colours) {
             reach(loom, from, set);
             for (int i = 0; i < listed && i < MOST_TOPS; i++) {
-                if (loom.coloursOf(list[i]) == colours) {
+                if (loom.shows(list[i], colours)) {
                     return true;
                 }
             }
@@ -1079,7 +1100,7 @@ public final class TurnedTablets {
             listed = 0;
             for (int i = 0; i < tops && i < MOST_TOPS; i++) {
                 // Never more rows than tops read so far: what is overwritten here has been read.
-                enlist(loom.lowestAlike(list[i]), START);
+                enlist(loom.firstAlikeOf(list[i]), START);
             }
             return listed;
         }
@@ -1095,6 +1116,10 @@ public final class TurnedTablets {
                 goOn(stepCount);
                 keepThose(loom, seen[i]);
             }
+            return sumOfMarks();
+        }
+
+        private int sumOfMarks() {
             int sum = 0;
             for (int tops = 0; tops < MOST_TOPS; tops++) {
                 sum += marks[tops];
@@ -1117,7 +1142,7 @@ public final class TurnedTablets {
 
         private void keepThose(Loom loom, int colours) {
             for (int tops = 0; tops < MOST_TOPS; tops++) {
-                if (marks[tops] != 0 && loom.coloursOf(tops) != colours) {
+                if (marks[tops] != 0 && !loom.shows(tops, colours)) {
                     marks[tops] = 0;
                 }
             }
@@ -1127,25 +1152,26 @@ public final class TurnedTablets {
         private int countStarts(Loom loom, int[] seen, int seenCount) {
             int stepCount = takeSteps(loom);
             int allTops = Math.min(1 << 2 * loom.tablets, MOST_TOPS);
-            Arrays.fill(marks, 1);
+            for (int tops = 0; tops < MOST_TOPS; tops++) {
+                marks[tops] = tops < allTops ? 1 : 0;
+            }
             for (int i = Math.min(seenCount, seen.length) - 1; i >= 0; i--) {
                 keepThose(loom, seen[i]);
-                goBack(stepCount, allTops);
+                goBack(stepCount);
             }
-            int sum = 0;
-            for (int tops = 0; tops < allTops; tops++) {
-                sum += marks[tops];
-            }
-            return sum;
+            return sumOfMarks();
         }
 
-        private void goBack(int stepCount, int allTops) {
+        private void goBack(int stepCount) {
             System.arraycopy(marks, 0, list, 0, MOST_TOPS);
             Arrays.fill(marks, 0);
-            for (int tops = 0; tops < allTops && tops < MOST_TOPS; tops++) {
-                for (int s = 0; s < stepCount && marks[tops] == 0; s++) {
-                    int next = onBy(tops, s);
-                    marks[tops] = next >= 0 && next < MOST_TOPS ? list[next] : 0;
+            for (int tops = 0; tops < MOST_TOPS; tops++) {
+                for (int s = 0; s < stepCount && list[tops] > 0; s++) {
+                    // Three steps on are one back.
+                    int before = onBy(onBy(onBy(tops, s), s), s);
+                    if (before >= 0 && before < MOST_TOPS) {
+                        marks[before] = 1;
+                    }
                 }
             }
         }

@@ -12,10 +12,13 @@ import java.util.regex.Pattern;
 
 /** Long runs of drawn calls, right and wrong ones, compared with a slow and plain model of the document. */
 public final class AgainstModelTest {
+    private static final int MOST_CALLS = 512;
+    // 42 at tablets, 10 at counts, 48 at rows, and 3 that a changing call can have left over.
+    private static final int LAST_LOOKS = 42 + 10 + 48 + 3;
     private static int wrong = 0;
 
     public static void main(String[] args) {
-        int seeds = args.length > 0 ? Integer.parseInt(args[0]) : 400;
+        int seeds = args.length > 0 ? Integer.parseInt(args[0]) : 600;
         for (int seed = 0; seed < seeds && wrong < 10; seed++) {
             run(seed);
         }
@@ -25,44 +28,56 @@ public final class AgainstModelTest {
         }
     }
 
+    // What an object answers behind its 512th call is free: each run ends there, with looks at all that stands.
     private static void run(int seed) {
         Random random = new Random(seed);
         TurnedTablets program = new TurnedTablets();
         Model model = new Model();
         List<String> calls = new ArrayList<>();
-        int left = 500;
         if (seed % 5 != 0) {
             String text = Texts.whole(random);
-            left -= text.length() + 1;
             for (char letter : text.toCharArray()) {
                 compare(seed, calls, "write(" + (int) letter + ")", program.write(letter), model.write(letter));
             }
             compare(seed, calls, "lay()", program.lay(), model.lay());
         }
-        for (int i = 0; i < left && wrong < 10; i++) {
+        while (calls.size() < MOST_CALLS - LAST_LOOKS && wrong < 10) {
             Call call = new Call(random, model);
-            long got = call.on(program);
-            long want = call.on(model);
-            compare(seed, calls, call.toString(), got, want);
+            compare(seed, calls, call.toString(), call.on(program), call.on(model));
             if (call.changes()) {
-                compareStands(seed, calls, program, model);
+                lookAtTablet(seed, calls, program, model, random.nextInt(6), random.nextInt(7));
+                lookAtCount(seed, calls, program, model, random.nextInt(10));
+                lookAtRow(seed, calls, program, model, model.count(4) - 1, random.nextInt(2));
             }
         }
+        lookAtAll(seed, calls, program, model);
     }
 
-    // Looks change nothing, so that the program may be asked more often than 512 times here.
-    private static void compareStands(int seed, List<String> calls, TurnedTablets program, Model model) {
+    private static void lookAtAll(int seed, List<String> calls, TurnedTablets program, Model model) {
         for (int t = 0; t < 6; t++) {
             for (int what = 0; what < 7; what++) {
-                compare(seed, calls, "tablet(" + t + ", " + what + ")", program.tablet(t, what), model.tablet(t, what));
+                lookAtTablet(seed, calls, program, model, t, what);
             }
         }
         for (int what = 0; what < 10; what++) {
-            compare(seed, calls, "count(" + what + ")", program.count(what), model.count(what));
+            lookAtCount(seed, calls, program, model, what);
         }
-        int last = model.count(4) - 1;
-        compare(seed, calls, "row(" + last + ", 0)", program.row(last, 0), model.row(last, 0));
-        compare(seed, calls, "row(" + last + ", 1)", program.row(last, 1), model.row(last, 1));
+        for (int k = 0; k < 24; k++) {
+            lookAtRow(seed, calls, program, model, k, 0);
+            lookAtRow(seed, calls, program, model, k, 1);
+        }
+    }
+
+    private static void lookAtTablet(int seed, List<String> calls, TurnedTablets program, Model model, int t, int what) {
+        compare(seed, calls, "tablet(" + t + ", " + what + ")", program.tablet(t, what), model.tablet(t, what));
+    }
+
+    private static void lookAtCount(int seed, List<String> calls, TurnedTablets program, Model model, int what) {
+        compare(seed, calls, "count(" + what + ")", program.count(what), model.count(what));
+    }
+
+    private static void lookAtRow(int seed, List<String> calls, TurnedTablets program, Model model, int k, int what) {
+        compare(seed, calls, "row(" + k + ", " + what + ")", program.row(k, what), model.row(k, what));
     }
 
     private static void compare(int seed, List<String> calls, String call, long got, long want) {

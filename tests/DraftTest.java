@@ -1,27 +1,5 @@
 /** Promises 20 to 25: drafts woven round, what they gather, when they jam; how rows of colours can come. */
-public final class DraftTest {
-    private static int wrong = 0;
-
-    private static void due(String call, long got, long want) {
-        if (got != want) {
-            wrong++;
-            System.out.println(call + " answered " + got + ", due is " + want);
-        }
-    }
-
-    private static void tell(TurnedTablets x, String text) {
-        for (int i = 0; i < text.length(); i++) {
-            due("write " + text.charAt(i) + " of " + text, x.write(text.charAt(i)), x.count(9));
-        }
-    }
-
-    private static TurnedTablets loom(String text) {
-        TurnedTablets x = new TurnedTablets();
-        tell(x, text);
-        due("lay() of " + text, x.lay(), x.count(0));
-        return x;
-    }
-
+public final class DraftTest extends Checks {
     private static final String ALL_OWN = "t0,0,0123;t0,0,0123;t0,0,0123;t0,0,0123;t0,0,0123;t0,0,0123;p0;p1;p2;p3;p4;p5;";
 
     public static void main(String[] args) {
@@ -33,10 +11,7 @@ public final class DraftTest {
         can();
         needs();
         nothingChanges();
-        System.out.println(wrong == 0 ? "drafts: as due" : "drafts: " + wrong + " WRONG");
-        if (wrong > 0) {
-            System.exit(1);
-        }
+        end("drafts");
     }
 
     private static void round(String text, int want) {

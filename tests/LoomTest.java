@@ -1,27 +1,5 @@
 /** Promises 1 to 11: texts, faults, what is laid, what is on top. */
-public final class LoomTest {
-    private static int wrong = 0;
-
-    private static void due(String call, long got, long want) {
-        if (got != want) {
-            wrong++;
-            System.out.println(call + " answered " + got + ", due is " + want);
-        }
-    }
-
-    private static void tell(TurnedTablets x, String text) {
-        for (int i = 0; i < text.length(); i++) {
-            due("write " + text.charAt(i) + " of " + text, x.write(text.charAt(i)), x.count(9));
-        }
-    }
-
-    private static TurnedTablets loom(String text) {
-        TurnedTablets x = new TurnedTablets();
-        tell(x, text);
-        due("lay() of " + text, x.lay(), x.count(0));
-        return x;
-    }
-
+public final class LoomTest extends Checks {
     private static final String T = "t0,0,0123;";
 
     public static void main(String[] args) {
@@ -34,10 +12,7 @@ public final class LoomTest {
         threadings();
         holesPacksDrafts();
         topsAndRows();
-        System.out.println(wrong == 0 ? "looms: as due" : "looms: " + wrong + " WRONG");
-        if (wrong > 0) {
-            System.exit(1);
-        }
+        end("looms");
     }
 
     private static void newObject() {

@@ -1,27 +1,5 @@
 /** Promises 26 to 30: what is seen, how it can have come about, what is amiss. */
-public final class SeenTest {
-    private static int wrong = 0;
-
-    private static void due(String call, long got, long want) {
-        if (got != want) {
-            wrong++;
-            System.out.println(call + " answered " + got + ", due is " + want);
-        }
-    }
-
-    private static void tell(TurnedTablets x, String text) {
-        for (int i = 0; i < text.length(); i++) {
-            due("write " + text.charAt(i) + " of " + text, x.write(text.charAt(i)), x.count(9));
-        }
-    }
-
-    private static TurnedTablets loom(String text) {
-        TurnedTablets x = new TurnedTablets();
-        tell(x, text);
-        due("lay() of " + text, x.lay(), x.count(0));
-        return x;
-    }
-
+public final class SeenTest extends Checks {
     private static final String TWO = "t0,0,0123;t0,0,0123;p0;p1;p01;p1;l1;";
 
     public static void main(String[] args) {
@@ -30,10 +8,7 @@ public final class SeenTest {
         mostWays();
         lies();
         amiss();
-        System.out.println(wrong == 0 ? "seen: as due" : "seen: " + wrong + " WRONG");
-        if (wrong > 0) {
-            System.exit(1);
-        }
+        end("seen");
     }
 
     private static void seeAndForget() {

@@ -1,27 +1,5 @@
 /** Promises 31 to 35: slips by chance, bands by draws, looms kept, counts. */
-public final class SlipTest {
-    private static int wrong = 0;
-
-    private static void due(String call, long got, long want) {
-        if (got != want) {
-            wrong++;
-            System.out.println(call + " answered " + got + ", due is " + want);
-        }
-    }
-
-    private static void tell(TurnedTablets x, String text) {
-        for (int i = 0; i < text.length(); i++) {
-            due("write " + text.charAt(i) + " of " + text, x.write(text.charAt(i)), x.count(9));
-        }
-    }
-
-    private static TurnedTablets loom(String text) {
-        TurnedTablets x = new TurnedTablets();
-        tell(x, text);
-        due("lay() of " + text, x.lay(), x.count(0));
-        return x;
-    }
-
+public final class SlipTest extends Checks {
     private static final int[] ODD = {-1, -2, Integer.MIN_VALUE, Integer.MAX_VALUE};
     private static final String KINDS = "t0,0,0123;t1,0,0123;t2,0,0123;t3,0,0123;p0123;p02;p13;l3;";
 
@@ -35,10 +13,7 @@ public final class SlipTest {
         backBringsAll();
         backBringsRows();
         counts();
-        System.out.println(wrong == 0 ? "slips, bands: as due" : "slips, bands: " + wrong + " WRONG");
-        if (wrong > 0) {
-            System.exit(1);
-        }
+        end("slips, bands");
     }
 
     private static void slips(TurnedTablets x, int p, int way, int chance, int above, int below) {

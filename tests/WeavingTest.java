@@ -1,27 +1,5 @@
 /** Promises 12 to 19: picks woven and unwoven, tablets turned by hand, flipped, combed, undone. */
-public final class WeavingTest {
-    private static int wrong = 0;
-
-    private static void due(String call, long got, long want) {
-        if (got != want) {
-            wrong++;
-            System.out.println(call + " answered " + got + ", due is " + want);
-        }
-    }
-
-    private static void tell(TurnedTablets x, String text) {
-        for (int i = 0; i < text.length(); i++) {
-            due("write " + text.charAt(i) + " of " + text, x.write(text.charAt(i)), x.count(9));
-        }
-    }
-
-    private static TurnedTablets loom(String text) {
-        TurnedTablets x = new TurnedTablets();
-        tell(x, text);
-        due("lay() of " + text, x.lay(), x.count(0));
-        return x;
-    }
-
+public final class WeavingTest extends Checks {
     private static final String FOUR = "t0,0,0123;t1,1,4567;t2,0,8901;t3,1,2345;p0123;p0;p1;p2;p3;";
     private static final int[] ODD = {-1, 2, 6, 7, 100, Integer.MIN_VALUE, Integer.MAX_VALUE};
 
@@ -39,10 +17,7 @@ public final class WeavingTest {
         undo();
         undoBringsRows();
         undoEach();
-        System.out.println(wrong == 0 ? "weaving: as due" : "weaving: " + wrong + " WRONG");
-        if (wrong > 0) {
-            System.exit(1);
-        }
+        end("weaving");
     }
 
     private static void stands(TurnedTablets x, int t, int top, int twist, int floats, int slant) {

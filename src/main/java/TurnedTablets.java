@@ -14,6 +14,8 @@ public final class TurnedTablets {
     private static final int MOST_ROWS = 24;
     private static final int MOST_SEEN = 6;
     private static final int MOST_UNDONE = 8;
+    // A power of two, less 1: what is cut to its bits is always a place of the ring.
+    private static final int UNDO_RING = MOST_UNDONE - 1;
     private static final int MOST_KEPT = 2;
     private static final int MOST_DRAFTS = 60;
     private static final int MOST_TWIST = 40;
@@ -251,9 +253,9 @@ public final class TurnedTablets {
         if (undoCount == 0) {
             return NO;
         }
-        undoEnd = undoEnd == 0 ? MOST_UNDONE - 1 : undoEnd - 1;
+        undoEnd--;
         undoCount--;
-        cloth.copyFrom(undoable[undoEnd]);
+        cloth.copyFrom(undoable[undoEnd & UNDO_RING]);
         return undoCount;
     }
 
@@ -485,8 +487,8 @@ public final class TurnedTablets {
 
     /** What stands now can be brought back by undo; the oldest of eight gives way. */
     private void remember() {
-        undoable[undoEnd].copyFrom(cloth);
-        undoEnd = undoEnd == MOST_UNDONE - 1 ? 0 : undoEnd + 1;
+        undoable[undoEnd & UNDO_RING].copyFrom(cloth);
+        undoEnd++;
         undoCount = Math.min(undoCount + 1, MOST_UNDONE);
     }
 
